@@ -32,6 +32,8 @@ public final class PromiseTests {
         inquiries();
         sums();
         failedCallsChangeNothing();
+        fullHall();
+        oddArguments();
         check.end("PromiseTests");
     }
 
@@ -779,6 +781,7 @@ public final class PromiseTests {
         x.breakWord(1);
         check.dueThrow(Check.STATE, "other one BROKEN", () -> x.pay(0, 1, 1));
         check.due("the debt stays", x.debt(0, 1, false), 150);
+        check.dueThrow(Check.STATE, "more than the debt, with the cash", () -> x.pay(rich, 0, 1));
         check.due("as far as the debt goes", x.pay(0, rich, 500), 0);
         x.courier(rich, 2, 100, 1);
         x.pass(1);
@@ -956,6 +959,13 @@ public final class PromiseTests {
         w.breakWord(1);
         check.due("whatever they are", w.ring(), 1000000);
         ringsUnknown();
+        HundiHall v = richOnes(3);
+        owe(v, 2, 1, 1);
+        owe(v, 1, 0, 2);
+        owe(v, 0, 2, 3);
+        v.pass(1);
+        check.due("a ring of 1", v.ring(), 1);
+        check.due("the other way round", v.debt(2, 1, false), 0);
     }
 
     private static void ringsUnknown() {
@@ -1262,6 +1272,14 @@ public final class PromiseTests {
         check.due("raided and broken", z.inquiry(), 4 + 2);
         z.raid(0);
         check.due("another one", z.inquiry(), 4 + 2 + 1);
+        HundiHall v = chain(4, 1000);
+        v.trust(3, 0, 1000, false);
+        v.order(0, 2, 10, 0, 0);
+        v.order(0, 3, 10, 0, 0);
+        v.raid(3);
+        check.due("what is taken back names nobody", v.inquiry(), 8);
+        v.raid(0);
+        check.due("what stands does", v.inquiry(), 8 + 1 + 2 + 4);
         HundiHall w = chain(12, 1000);
         for (int i = 0; i < 11; i++) {
             w.order(i, i + 1, 10, 0, 0);
@@ -1372,5 +1390,86 @@ public final class PromiseTests {
         check.due("the festival is the first", x.festival(), true);
         check.due("next courier", x.courier(0, 1, 1, 1), 1);
         check.due("next broker", x.broker(0, 0, 0), 3);
+    }
+
+    /** As many brokers, orders and couriers as there can be: each call still answers. */
+    private static void fullHall() {
+        check.part("full hall");
+        HundiHall x = new HundiHall();
+        for (int i = 0; i < 12; i++) {
+            x.broker(i % 8, 1000, 0);
+            if (i > 0) {
+                x.trust(i, i - 1, 1000000, false);
+            }
+        }
+        for (int i = 0; i < 40; i++) {
+            x.order(0, 11, 100, i % 20, i);
+            x.courier(i % 12, (i + 1) % 12, 10, 1 + i);
+        }
+        check.due("debt", x.debt(10, 11, false), 4000);
+        check.due("ways", wayTextOf(x, 39), "0-1-2-3-4-5-6-7-8-9-10-11");
+        check.due("behind the last place", x.wayOf(39, 12), HundiHall.NONE);
+        check.due("way", x.way(0, 11, 1, 11), 11);
+        check.due("behind its last place", x.way(0, 11, 1, 12), HundiHall.NONE);
+        check.due("raid in the middle", x.raid(6), 1000 - 30);
+        check.due("all go back", x.orderOf(39, 0), HundiHall.GOES_BACK);
+        check.due("pass", x.pass(40), 40);
+        check.due("all given back", x.sum(2), 4000);
+        check.due("all couriers have come", x.sum(5), 0);
+        check.due("ring", x.ring(), 0);
+        check.due("inquiry by couriers", x.inquiry(), 4095);
+        check.due("given", x.sum(0), 4000);
+        check.due("paid out", x.sum(1), 0);
+        check.due("lost by couriers", x.sum(3), 0);
+        check.due("cash", x.sum(6), 12000 - 970);
+        check.due("LOST", x.sum(7), 0);
+        check.due("worth", x.brokerOf(11, 3), 1000);
+        check.due("breakWord", x.breakWord(11), 0);
+        check.due("list", x.list(19), true);
+        check.due("law", x.law(7, 0), 0);
+    }
+
+    /** No call throws anything but what the document names, whatever it is called with. */
+    private static void oddArguments() {
+        check.part("odd arguments");
+        int[] odd = {MIN, MIN + 1, -1, 0, 1, 11, 12, 40, 1000001, MAX - 1, MAX};
+        for (int a : odd) {
+            for (int b : odd) {
+                HundiHall x = chain(12, 1000);
+                x.order(0, 11, 1000, 0, 0);
+                x.courier(0, 1, 1, 1);
+                named("rate", () -> x.rate(a, b));
+                named("trust", () -> { x.trust(a, b, b, true); return 0; });
+                named("order", () -> x.order(a, b, 1, 0, 0));
+                named("order", () -> x.order(0, 1, a, b, b));
+                named("fetch", () -> x.fetch(a, b));
+                named("pay", () -> x.pay(a, b, a));
+                named("deliver", () -> x.deliver(a, b, b));
+                named("courier", () -> x.courier(a, b, b, a));
+                named("courier", () -> x.courier(0, 1, a, b));
+                named("rob", () -> x.rob(a));
+                named("law", () -> x.law(a, b));
+                named("list", () -> x.list(a) ? 1 : 0);
+                named("brokerOf", () -> x.brokerOf(a, b));
+                named("debt", () -> x.debt(a, b, a < b));
+                named("agree", () -> x.agree(a, b) ? 1 : 0);
+                named("way", () -> x.way(a, b, 1, a));
+                named("way", () -> x.way(0, 1, a, b));
+                named("wayOf", () -> x.wayOf(a, b));
+                named("orderOf", () -> x.orderOf(a, b));
+                named("sum", () -> x.sum(a));
+                named("pass", () -> x.pass(a));
+                named("raid", () -> x.raid(a));
+                named("breakWord", () -> x.breakWord(b));
+                named("broker", () -> x.broker(a, b, a));
+            }
+        }
+    }
+
+    private static void named(String call, Check.Call made) {
+        String outcome = Check.outcome(made);
+        boolean isNamed = !outcome.endsWith("Exception") || outcome.equals(Check.INDEX)
+                || outcome.equals(Check.ARGUMENT) || outcome.equals(Check.STATE);
+        check.due(call + " (" + outcome + ")", isNamed, true);
     }
 }
