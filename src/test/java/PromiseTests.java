@@ -37,42 +37,6 @@ public final class PromiseTests {
         check.end("PromiseTests");
     }
 
-    /** Brokers in a row, each with no cash and the rate 0, each but the first trusting the one ahead. */
-    private static HundiHall chain(int count, int limit) {
-        HundiHall x = new HundiHall();
-        for (int i = 0; i < count; i++) {
-            x.broker(i % 8, 0, 0);
-            if (i > 0) {
-                x.trust(i, i - 1, limit, false);
-            }
-        }
-        return x;
-    }
-
-    private static String wayText(HundiHall x, int first, int last, int amount) {
-        StringBuilder text = new StringBuilder();
-        for (int i = 0; i < 13; i++) {
-            int broker = x.way(first, last, amount, i);
-            if (broker == HundiHall.NONE) {
-                break;
-            }
-            text.append(i == 0 ? "" : "-").append(broker);
-        }
-        return text.toString();
-    }
-
-    private static String wayTextOf(HundiHall x, int order) {
-        StringBuilder text = new StringBuilder();
-        for (int i = 0; i < 13; i++) {
-            int broker = x.wayOf(order, i);
-            if (broker == HundiHall.NONE) {
-                break;
-            }
-            text.append(i == 0 ? "" : "-").append(broker);
-        }
-        return text.toString();
-    }
-
     private static void newObject() {
         check.part("1 new object");
         HundiHall x = new HundiHall();
@@ -123,7 +87,7 @@ public final class PromiseTests {
 
     private static void rates() {
         check.part("3 rate");
-        HundiHall x = chain(3, 10000);
+        HundiHall x = Halls.chain(3, 10000);
         check.dueThrow(Check.INDEX, "rate(3, 0)", () -> x.rate(3, 0));
         check.dueThrow(Check.INDEX, "rate(-1, 0)", () -> x.rate(-1, 0));
         check.dueThrow(Check.INDEX, "rate(3, -1)", () -> x.rate(3, -1));
@@ -147,7 +111,7 @@ public final class PromiseTests {
     }
 
     private static long feeOf(int amount, int rate) {
-        HundiHall x = chain(2, 1000000);
+        HundiHall x = Halls.chain(2, 1000000);
         x.rate(0, rate);
         x.order(0, 1, amount, 0, 0);
         return x.orderOf(0, 2) - amount;
@@ -155,7 +119,7 @@ public final class PromiseTests {
 
     private static void trusts() {
         check.part("4 trust");
-        HundiHall x = chain(2, 0);
+        HundiHall x = Halls.chain(2, 0);
         check.dueThrow(Check.INDEX, "trust(2, 0)", () -> { x.trust(2, 0, 1, true); return 0; });
         check.dueThrow(Check.INDEX, "trust(0, 2)", () -> { x.trust(0, 2, 1, true); return 0; });
         check.dueThrow(Check.INDEX, "trust(-1, 0)", () -> { x.trust(-1, 0, 1, true); return 0; });
@@ -164,72 +128,66 @@ public final class PromiseTests {
         check.dueThrow(Check.ARGUMENT, "trust(0, 0)", () -> { x.trust(0, 0, 1, true); return 0; });
         check.dueThrow(Check.ARGUMENT, "limit -1", () -> { x.trust(1, 0, -1, true); return 0; });
         check.dueThrow(Check.ARGUMENT, "limit 1000001", () -> { x.trust(1, 0, 1000001, true); return 0; });
-        check.due("none trusts at first", wayText(x, 0, 1, 1), "");
+        check.due("none trusts at first", Halls.wayText(x, 0, 1, 1), "");
         x.trust(1, 0, 10, false);
-        check.due("as far as the limit", wayText(x, 0, 1, 10), "0-1");
-        check.due("above the limit", wayText(x, 0, 1, 11), "");
-        check.due("trust goes one way", wayText(x, 1, 0, 1), "");
+        check.due("as far as the limit", Halls.wayText(x, 0, 1, 10), "0-1");
+        check.due("above the limit", Halls.wayText(x, 0, 1, 11), "");
+        check.due("trust goes one way", Halls.wayText(x, 1, 0, 1), "");
         x.trust(1, 0, 3, false);
-        check.due("a later limit", wayText(x, 0, 1, 3) + wayText(x, 0, 1, 4), "0-1");
+        check.due("a later limit", Halls.wayText(x, 0, 1, 3) + Halls.wayText(x, 0, 1, 4), "0-1");
         x.trust(1, 0, 1000000, false);
-        check.due("the highest limit", wayText(x, 0, 1, 1000000), "0-1");
+        check.due("the highest limit", Halls.wayText(x, 0, 1, 1000000), "0-1");
         x.order(0, 1, 600000, 0, 0);
-        check.due("the debt counts", wayText(x, 0, 1, 400000) + wayText(x, 0, 1, 400001), "0-1");
+        check.due("the debt counts", Halls.wayText(x, 0, 1, 400000) + Halls.wayText(x, 0, 1, 400001), "0-1");
         x.deliver(0, 1, 600000);
         x.trust(0, 1, 50, false);
         x.trust(1, 0, 10, false);
         x.order(1, 0, 50, 0, 0);
-        check.due("a debt the other way is taken off", wayText(x, 0, 1, 60) + wayText(x, 0, 1, 61), "0-1");
+        check.due("a debt the other way is taken off", Halls.wayText(x, 0, 1, 60) + Halls.wayText(x, 0, 1, 61), "0-1");
         x.trust(1, 0, 0, false);
-        check.due("also with the limit 0", wayText(x, 0, 1, 50) + wayText(x, 0, 1, 51), "0-1");
-        HundiHall y = chain(3, 1000);
+        check.due("also with the limit 0", Halls.wayText(x, 0, 1, 50) + Halls.wayText(x, 0, 1, 51), "0-1");
+        HundiHall y = Halls.chain(3, 1000);
         y.rate(1, 20);
         y.rate(2, 10);
         y.trust(1, 0, 515, false);
         y.trust(2, 1, 505, false);
-        check.due("limits with the fees behind", wayText(y, 0, 2, 500), "0-1-2");
+        check.due("limits with the fees behind", Halls.wayText(y, 0, 2, 500), "0-1-2");
         y.trust(2, 1, 504, false);
-        check.due("limit of the last one", wayText(y, 0, 2, 500), "");
+        check.due("limit of the last one", Halls.wayText(y, 0, 2, 500), "");
         y.trust(2, 1, 505, false);
         y.trust(1, 0, 514, false);
-        check.due("limit of the second one", wayText(y, 0, 2, 500), "");
+        check.due("limit of the second one", Halls.wayText(y, 0, 2, 500), "");
     }
 
     private static void festivals() {
         check.part("5 festival");
-        HundiHall x = chain(3, 10);
+        HundiHall x = Halls.chain(3, 10);
         x.trust(1, 0, 10, true);
-        check.due("before", wayText(x, 0, 1, 11), "");
+        check.due("before", Halls.wayText(x, 0, 1, 11), "");
         check.due("begins", x.festival(), true);
-        check.due("kin, twice the limit", wayText(x, 0, 1, 20), "0-1");
-        check.due("kin, more", wayText(x, 0, 1, 21), "");
-        check.due("no kin", wayText(x, 1, 2, 10) + wayText(x, 1, 2, 11), "1-2");
+        check.due("kin, twice the limit", Halls.wayText(x, 0, 1, 20), "0-1");
+        check.due("kin, more", Halls.wayText(x, 0, 1, 21), "");
+        check.due("no kin", Halls.wayText(x, 1, 2, 10) + Halls.wayText(x, 1, 2, 11), "1-2");
         x.trust(0, 1, 5, false);
-        check.due("kin by the other trust alone", wayText(x, 1, 0, 6), "");
+        check.due("kin by the other trust alone", Halls.wayText(x, 1, 0, 6), "");
         check.due("order", x.order(0, 1, 15, 0, 0), 0);
         check.due("ends", x.festival(), false);
-        check.due("after", wayText(x, 0, 1, 1), "");
+        check.due("after", Halls.wayText(x, 0, 1, 1), "");
         check.due("the debt stays", x.debt(0, 1, false), 15);
         check.due("again", x.festival(), true);
-        check.due("the rest of twice the limit", wayText(x, 0, 1, 5) + wayText(x, 0, 1, 6), "0-1");
+        check.due("the rest of twice the limit", Halls.wayText(x, 0, 1, 5) + Halls.wayText(x, 0, 1, 6), "0-1");
         x.trust(1, 0, 1000000, true);
         x.trust(2, 1, 1000000, true);
         x.rate(1, 100);
         x.rate(2, 100);
-        check.due("fees above 1000000", wayText(x, 0, 2, 1000000), "0-1-2");
+        check.due("fees above 1000000", Halls.wayText(x, 0, 2, 1000000), "0-1-2");
         x.trust(1, 0, 10, false);
-        check.due("kin no more", wayText(x, 0, 1, 1), "");
-    }
-
-    private static void fetchFalse(HundiHall x, int order, int code, int times) {
-        for (int i = 0; i < times; i++) {
-            x.fetch(order, code);
-        }
+        check.due("kin no more", Halls.wayText(x, 0, 1, 1), "");
     }
 
     private static void brokenWords() {
         check.part("6 breakWord");
-        HundiHall x = chain(3, 1000);
+        HundiHall x = Halls.chain(3, 1000);
         check.dueThrow(Check.INDEX, "breakWord(3)", () -> x.breakWord(3));
         check.dueThrow(Check.INDEX, "breakWord(-1)", () -> x.breakWord(-1));
         x.rate(0, 10);
@@ -238,7 +196,7 @@ public final class PromiseTests {
         x.order(1, 2, 100, 0, 5);
         x.order(0, 1, 100, 0, 5);
         x.pass(1);
-        fetchFalse(x, 3, 6, 3);
+        Halls.fetchFalse(x, 3, 6, 3);
         check.due("GOES_BACK ahead of it", x.orderOf(3, 0), HundiHall.GOES_BACK);
         check.due("breakWord(0)", x.breakWord(0), 2);
         check.due("state", x.brokerOf(0, 0), HundiHall.BROKEN);
@@ -254,8 +212,8 @@ public final class PromiseTests {
         check.due("none was raided", x.inquiry(), 0);
         check.dueThrow(Check.STATE, "twice", () -> x.breakWord(0));
         check.dueThrow(Check.STATE, "raid of it", () -> x.raid(0));
-        check.due("no way from it", wayText(x, 0, 1, 1), "");
-        fetchFalse(x, 1, 6, 2);
+        check.due("no way from it", Halls.wayText(x, 0, 1, 1), "");
+        Halls.fetchFalse(x, 1, 6, 2);
         check.due("would begin to go back", x.fetch(1, 6), HundiHall.LOST);
         check.due("its debts too", x.debt(0, 1, false), 0);
         check.due("by the books", x.debt(0, 1, true) + x.debt(1, 0, true), 0);
@@ -266,7 +224,7 @@ public final class PromiseTests {
     }
 
     private static void brokenWordsLater() {
-        HundiHall x = chain(3, 1000);
+        HundiHall x = Halls.chain(3, 1000);
         x.order(0, 1, 100, 0, 0);
         x.pass(1);
         check.due("HERE is not LOST", x.breakWord(0), 0);
@@ -280,12 +238,12 @@ public final class PromiseTests {
         x.pass(500);
         x.pass(500);
         check.due("for good", x.brokerOf(1, 0), HundiHall.BROKEN);
-        HundiHall y = chain(4, 1000);
+        HundiHall y = Halls.chain(4, 1000);
         y.order(0, 3, 100, 0, 0);
         check.due("on the rest of a way", y.breakWord(2), 0);
         check.due("goes back", y.orderOf(0, 0), HundiHall.GOES_BACK);
         check.due("debts", y.debt(0, 1, false) + y.debt(1, 2, false) + y.debt(2, 3, false), 0);
-        HundiHall z = chain(4, 1000);
+        HundiHall z = Halls.chain(4, 1000);
         z.order(0, 3, 100, 0, 0);
         z.pass(1);
         check.due("with whom the message is", z.breakWord(1), 0);
@@ -307,17 +265,17 @@ public final class PromiseTests {
         x.trust(2, 1, 100, false);
         x.order(0, 3, 100, 0, 0);
         x.order(1, 3, 60, 0, 0);
-        check.due("first way", wayTextOf(x, 0), "0-1-3");
-        check.due("second way", wayTextOf(x, 1), "1-2-3");
+        check.due("first way", Halls.wayTextOf(x, 0), "0-1-3");
+        check.due("second way", Halls.wayTextOf(x, 1), "1-2-3");
         check.due("breakWord(1)", x.breakWord(1), 1);
-        check.due("new way", wayTextOf(x, 0), "0-2-3");
+        check.due("new way", Halls.wayTextOf(x, 0), "0-2-3");
         check.due("still on its way", x.orderOf(0, 0), HundiHall.ON_ITS_WAY);
         check.due("debt", x.debt(2, 3, false), 100);
     }
 
     private static void raids() {
         check.part("7 raid");
-        HundiHall x = chain(4, 1000);
+        HundiHall x = Halls.chain(4, 1000);
         int rich = x.broker(1, 500, 0);
         check.dueThrow(Check.INDEX, "raid(5)", () -> x.raid(5));
         check.dueThrow(Check.INDEX, "raid(-1)", () -> x.raid(-1));
@@ -347,14 +305,14 @@ public final class PromiseTests {
         check.due("the later one", x.brokerOf(1, 0), HundiHall.GOOD);
         check.due("the one raided again", x.brokerOf(rich, 0), HundiHall.RAIDED);
         check.due("inquiry then", x.inquiry(), 1 + 2 + 8 + 16);
-        HundiHall y = chain(3, 100);
+        HundiHall y = Halls.chain(3, 100);
         y.raid(1);
-        check.due("no way by it", wayText(y, 0, 2, 1), "");
-        check.due("no way from it", wayText(y, 1, 2, 1), "");
-        check.due("no way to it", wayText(y, 0, 1, 1), "");
+        check.due("no way by it", Halls.wayText(y, 0, 2, 1), "");
+        check.due("no way from it", Halls.wayText(y, 1, 2, 1), "");
+        check.due("no way to it", Halls.wayText(y, 0, 1, 1), "");
         y.pass(500);
         y.pass(220);
-        check.due("a way by it again", wayText(y, 0, 2, 1), "0-1-2");
+        check.due("a way by it again", Halls.wayText(y, 0, 2, 1), "0-1-2");
     }
 
     /** 0 to 1, from there by 2, 3 or 5 to 4; the order has come to 1. */
@@ -378,10 +336,10 @@ public final class PromiseTests {
     private static void newWays() {
         check.part("6, 7 new ways");
         HundiHall x = fork();
-        check.due("way", wayTextOf(x, 0), "0-1-2-4");
+        check.due("way", Halls.wayTextOf(x, 0), "0-1-2-4");
         check.due("given", x.orderOf(0, 2), 1015);
         x.raid(2);
-        check.due("as much", wayTextOf(x, 0), "0-1-3-4");
+        check.due("as much", Halls.wayTextOf(x, 0), "0-1-3-4");
         check.due("state", x.orderOf(0, 0), HundiHall.ON_ITS_WAY);
         check.due("place", x.orderOf(0, 3), 1);
         check.due("given as before", x.orderOf(0, 2), 1015);
@@ -399,7 +357,7 @@ public final class PromiseTests {
         HundiHall y = fork();
         y.rate(3, 20);
         y.raid(2);
-        check.due("by the dearer one no more than one", wayTextOf(y, 0), "0-1-2-4");
+        check.due("by the dearer one no more than one", Halls.wayTextOf(y, 0), "0-1-2-4");
         check.due("both are dearer", y.orderOf(0, 0), HundiHall.GOES_BACK);
         check.due("place as it was", y.orderOf(0, 3), 1);
         check.due("all debts", y.debt(0, 1, false) + y.debt(1, 2, false) + y.debt(2, 4, false), 0);
@@ -425,20 +383,20 @@ public final class PromiseTests {
         x.rate(0, 100);
         x.rate(1, 100);
         x.breakWord(2);
-        check.due("together less", wayTextOf(x, 0), "0-1-3-4");
+        check.due("together less", Halls.wayTextOf(x, 0), "0-1-3-4");
         check.due("debt", x.debt(1, 3, false), 1014);
         check.due("debt to the last one", x.debt(3, 4, false), 1000);
         x.rate(5, 15);
         x.raid(3);
         check.due("more than what the new way cost", x.orderOf(0, 0), HundiHall.GOES_BACK);
-        check.due("way as it was last", wayTextOf(x, 0), "0-1-3-4");
+        check.due("way as it was last", Halls.wayTextOf(x, 0), "0-1-3-4");
         check.due("debt ahead", x.debt(0, 1, false), 0);
         HundiHall y = fork();
         y.rate(3, 14);
         y.rate(4, 0);
         y.rate(5, 13);
         y.raid(2);
-        check.due("the cheapest one of now", wayTextOf(y, 0), "0-1-5-4");
+        check.due("the cheapest one of now", Halls.wayTextOf(y, 0), "0-1-5-4");
         HundiHall z = fork();
         z.rate(3, 10);
         z.rate(4, 6);
@@ -447,7 +405,7 @@ public final class PromiseTests {
     }
 
     private static HundiHall withWayBack(int hours) {
-        HundiHall x = chain(4, 1000);
+        HundiHall x = Halls.chain(4, 1000);
         x.order(0, 3, 100, 0, 0);
         if (hours > 0) {
             x.pass(hours);
@@ -462,7 +420,7 @@ public final class PromiseTests {
         HundiHall x = withWayBack(1);
         check.due("not by one ahead", x.orderOf(0, 0), HundiHall.GOES_BACK);
         HundiHall y = withWayBack(0);
-        check.due("from the first one", wayTextOf(y, 0), "0-3");
+        check.due("from the first one", Halls.wayTextOf(y, 0), "0-3");
         check.due("debt", y.debt(0, 3, false), 100);
         check.due("no debt", y.debt(0, 1, false), 0);
         y.pass(1);
@@ -470,16 +428,16 @@ public final class PromiseTests {
     }
 
     private static void takenBackFirst() {
-        HundiHall x = chain(4, 100);
+        HundiHall x = Halls.chain(4, 100);
         x.trust(3, 2, 0, false);
         x.trust(3, 1, 100, false);
         int last = x.broker(0, 0, 0);
         x.trust(last, 2, 100, false);
         x.trust(last, 3, 100, false);
         x.order(0, last, 100, 0, 0);
-        check.due("way", wayTextOf(x, 0), "0-1-2-4");
+        check.due("way", Halls.wayTextOf(x, 0), "0-1-2-4");
         x.raid(2);
-        check.due("by the same step again", wayTextOf(x, 0), "0-1-3-4");
+        check.due("by the same step again", Halls.wayTextOf(x, 0), "0-1-3-4");
         check.due("debt of that step", x.debt(0, 1, false), 100);
     }
 
@@ -497,9 +455,9 @@ public final class PromiseTests {
         x.order(0, 3, 70, 0, 0);
         x.trust(3, 2, 165, false);
         x.raid(1);
-        check.due("first", wayTextOf(x, 0) + " " + x.orderOf(0, 0), "0-2-3 0");
-        check.due("second", wayTextOf(x, 1) + " " + x.orderOf(1, 0), "0-1-3 3");
-        check.due("third", wayTextOf(x, 2) + " " + x.orderOf(2, 0), "0-2-3 0");
+        check.due("first", Halls.wayTextOf(x, 0) + " " + x.orderOf(0, 0), "0-2-3 0");
+        check.due("second", Halls.wayTextOf(x, 1) + " " + x.orderOf(1, 0), "0-1-3 3");
+        check.due("third", Halls.wayTextOf(x, 2) + " " + x.orderOf(2, 0), "0-2-3 0");
         check.due("debt", x.debt(2, 3, false), 160);
     }
 
@@ -514,7 +472,7 @@ public final class PromiseTests {
         check.due("no new way to a RAIDED one", y.orderOf(0, 0), HundiHall.GOES_BACK);
         HundiHall z = fork();
         z.raid(3);
-        check.due("not on its way", wayTextOf(z, 0) + " " + z.orderOf(0, 0), "0-1-2-4 0");
+        check.due("not on its way", Halls.wayTextOf(z, 0) + " " + z.orderOf(0, 0), "0-1-2-4 0");
         HundiHall w = fork();
         w.pass(1);
         w.raid(2);
@@ -533,9 +491,9 @@ public final class PromiseTests {
         x.trust(11, 1, 1000, false);
         x.trust(1, 0, 1000, false);
         x.order(0, 11, 100, 0, 0);
-        check.due("way", wayTextOf(x, 0), "0-1-11");
+        check.due("way", Halls.wayTextOf(x, 0), "0-1-11");
         x.raid(1);
-        check.due("longer way", wayTextOf(x, 0), "0-2-3-4-5-6-7-8-9-10-11");
+        check.due("longer way", Halls.wayTextOf(x, 0), "0-2-3-4-5-6-7-8-9-10-11");
         x.pass(9);
         check.due("not yet", x.orderOf(0, 0), HundiHall.ON_ITS_WAY);
         x.pass(1);
@@ -545,7 +503,7 @@ public final class PromiseTests {
 
     private static void orders() {
         check.part("8 order");
-        HundiHall x = chain(3, 1000000);
+        HundiHall x = Halls.chain(3, 1000000);
         x.rate(0, 10);
         x.rate(1, 20);
         x.rate(2, 30);
@@ -594,7 +552,7 @@ public final class PromiseTests {
 
     private static void fetching() {
         check.part("9 fetch");
-        HundiHall x = chain(3, 1000);
+        HundiHall x = Halls.chain(3, 1000);
         check.dueThrow(Check.INDEX, "no order", () -> x.fetch(0, 0));
         x.order(0, 2, 100, 0, 77);
         check.dueThrow(Check.INDEX, "order 1, code -1", () -> x.fetch(1, -1));
@@ -623,7 +581,7 @@ public final class PromiseTests {
         check.dueThrow(Check.STATE, "twice", () -> x.fetch(0, 77));
         x.order(1, 2, 50, 0, 3);
         x.pass(1);
-        fetchFalse(x, 1, 4, 2);
+        Halls.fetchFalse(x, 1, 4, 2);
         check.due("third false code", x.fetch(1, 5), HundiHall.GOES_BACK);
         check.due("three", x.orderOf(1, 4), 3);
         check.due("debt taken back", x.debt(1, 2, false), 100);
@@ -633,7 +591,7 @@ public final class PromiseTests {
         x.pass(1);
         x.raid(2);
         check.dueThrow(Check.STATE, "last one RAIDED", () -> x.fetch(2, 3));
-        HundiHall y = chain(2, 1000);
+        HundiHall y = Halls.chain(2, 1000);
         int giver = y.broker(0, 100, 0);
         y.order(0, 1, 10, 0, 0);
         y.courier(giver, 1, 100, 1);
@@ -644,7 +602,7 @@ public final class PromiseTests {
 
     private static void hours() {
         check.part("10 pass");
-        HundiHall x = chain(4, 1000);
+        HundiHall x = Halls.chain(4, 1000);
         check.dueThrow(Check.ARGUMENT, "pass(0)", () -> x.pass(0));
         check.dueThrow(Check.ARGUMENT, "pass(-1)", () -> x.pass(-1));
         check.dueThrow(Check.ARGUMENT, "pass(501)", () -> x.pass(501));
@@ -667,7 +625,7 @@ public final class PromiseTests {
     }
 
     private static void raidOverAheadOfGivingBack() {
-        HundiHall x = chain(2, 1000);
+        HundiHall x = Halls.chain(2, 1000);
         int rich = x.broker(0, 1000, 0);
         x.order(0, 1, 100, 0, 0);
         x.raid(0);
@@ -683,7 +641,7 @@ public final class PromiseTests {
     }
 
     private static void couriersBehindGivingBack() {
-        HundiHall x = chain(2, 1000);
+        HundiHall x = Halls.chain(2, 1000);
         int rich = x.broker(0, 1000, 0);
         x.order(0, 1, 100, 0, 0);
         x.order(0, 1, 50, 0, 0);
@@ -708,7 +666,7 @@ public final class PromiseTests {
 
     private static void goingBack() {
         check.part("9, 10 going back");
-        HundiHall x = chain(3, 1000);
+        HundiHall x = Halls.chain(3, 1000);
         x.rate(1, 10);
         x.pass(3);
         x.order(0, 2, 100, 0, 0);
@@ -732,19 +690,19 @@ public final class PromiseTests {
         check.due("cash of the first one", x.brokerOf(0, 1), 0);
         x.pass(500);
         check.due("once", x.sum(2), 101);
-        HundiHall y = chain(2, 1000);
+        HundiHall y = Halls.chain(2, 1000);
         y.order(0, 1, 100, 0, 0);
         y.pass(240);
         check.due("in the hour in which it became too old", y.orderOf(0, 0), HundiHall.BACK);
         check.due("cash", y.brokerOf(0, 1), 0);
         check.dueThrow(Check.STATE, "fetch of what is BACK", () -> y.fetch(0, 0));
-        HundiHall z = chain(2, 1000);
+        HundiHall z = Halls.chain(2, 1000);
         int rich = z.broker(0, 1000, 0);
         z.order(0, 1, 100, 0, 0);
         z.courier(rich, 1, 100, 1);
         z.courier(0, rich, 100, 500);
         z.pass(1);
-        fetchFalse(z, 0, 1, 3);
+        Halls.fetchFalse(z, 0, 1, 3);
         z.breakWord(0);
         z.pass(1);
         check.due("LOST while it GOES_BACK", z.orderOf(0, 0), HundiHall.LOST);
@@ -752,7 +710,7 @@ public final class PromiseTests {
 
     private static void pays() {
         check.part("11 pay");
-        HundiHall x = chain(3, 1000);
+        HundiHall x = Halls.chain(3, 1000);
         x.order(0, 1, 300, 0, 0);
         check.dueThrow(Check.INDEX, "pay(3, 0)", () -> x.pay(3, 0, 1));
         check.dueThrow(Check.INDEX, "pay(0, 3)", () -> x.pay(0, 3, 1));
@@ -791,7 +749,7 @@ public final class PromiseTests {
 
     private static void delivers() {
         check.part("12 deliver");
-        HundiHall x = chain(3, 1000);
+        HundiHall x = Halls.chain(3, 1000);
         x.order(0, 1, 300, 0, 0);
         check.dueThrow(Check.INDEX, "deliver(3, 0)", () -> x.deliver(3, 0, 1));
         check.dueThrow(Check.INDEX, "deliver(0, 3)", () -> x.deliver(0, 3, 1));
@@ -813,7 +771,7 @@ public final class PromiseTests {
         check.due("both RAIDED", x.deliver(0, 1, 50), 100);
         x.breakWord(1);
         check.dueThrow(Check.STATE, "other one BROKEN", () -> x.deliver(0, 1, 1));
-        HundiHall y = chain(2, 1000);
+        HundiHall y = Halls.chain(2, 1000);
         y.order(0, 1, 30, 0, 0);
         y.pass(1);
         check.due("all", y.deliver(0, 1, 20), 10);
@@ -824,7 +782,7 @@ public final class PromiseTests {
 
     private static void couriers() {
         check.part("13 courier");
-        HundiHall x = chain(2, 1000);
+        HundiHall x = Halls.chain(2, 1000);
         int rich = x.broker(0, 1000, 0);
         x.order(0, 1, 300, 0, 0);
         check.dueThrow(Check.INDEX, "courier(3, 0)", () -> x.courier(3, 0, 1, 1));
@@ -871,7 +829,7 @@ public final class PromiseTests {
 
     private static void robs() {
         check.part("14 rob");
-        HundiHall x = chain(2, 1000);
+        HundiHall x = Halls.chain(2, 1000);
         check.dueThrow(Check.INDEX, "no courier", () -> x.rob(0));
         x.order(0, 1, 300, 0, 0);
         x.courier(0, 1, 100, 2);
@@ -891,28 +849,15 @@ public final class PromiseTests {
         check.due("lost in all", x.sum(3), 100);
     }
 
-    /** Lets the debtor owe the creditor, both knowing it, by a courier that comes in the hour that comes. */
-    private static void owe(HundiHall x, int debtor, int creditor, int amount) {
-        x.courier(creditor, debtor, amount, 1);
-    }
-
-    private static HundiHall richOnes(int count) {
-        HundiHall x = new HundiHall();
-        for (int i = 0; i < count; i++) {
-            x.broker(i % 8, 1000000, 0);
-        }
-        return x;
-    }
-
     private static void rings() {
         check.part("15 ring");
-        HundiHall x = richOnes(6);
-        owe(x, 0, 1, 10);
-        owe(x, 1, 2, 12);
-        owe(x, 2, 0, 14);
-        owe(x, 3, 5, 9);
-        owe(x, 5, 4, 8);
-        owe(x, 4, 3, 7);
+        HundiHall x = Halls.richOnes(6);
+        Halls.owe(x, 0, 1, 10);
+        Halls.owe(x, 1, 2, 12);
+        Halls.owe(x, 2, 0, 14);
+        Halls.owe(x, 3, 5, 9);
+        Halls.owe(x, 5, 4, 8);
+        Halls.owe(x, 4, 3, 7);
         check.due("nothing yet", x.ring(), 0);
         x.pass(1);
         check.due("two rings", x.ring(), 17);
@@ -926,50 +871,50 @@ public final class PromiseTests {
         check.due("book of the other one", x.debt(2, 1, true), -2);
         check.due("again", x.ring(), 0);
         check.due("no cash is moved", x.brokerOf(1, 1), 1000000 - 10 + 12);
-        HundiHall y = richOnes(4);
-        owe(y, 0, 1, 100);
-        owe(y, 1, 2, 70);
-        owe(y, 2, 0, 80);
-        owe(y, 1, 3, 60);
-        owe(y, 3, 0, 50);
+        HundiHall y = Halls.richOnes(4);
+        Halls.owe(y, 0, 1, 100);
+        Halls.owe(y, 1, 2, 70);
+        Halls.owe(y, 2, 0, 80);
+        Halls.owe(y, 1, 3, 60);
+        Halls.owe(y, 3, 0, 50);
         y.pass(1);
         check.due("sharing a debt", y.ring(), 100);
         check.due("by the lower one first", y.debt(1, 2, false), 0);
         check.due("the rest by the other one", y.debt(1, 3, false), 30);
         check.due("the least", y.debt(3, 0, false), 20);
-        HundiHall z = richOnes(4);
-        owe(z, 0, 1, 5);
-        owe(z, 1, 2, 5);
-        owe(z, 2, 3, 5);
-        owe(z, 3, 0, 5);
-        owe(z, 2, 1, 1);
+        HundiHall z = Halls.richOnes(4);
+        Halls.owe(z, 0, 1, 5);
+        Halls.owe(z, 1, 2, 5);
+        Halls.owe(z, 2, 3, 5);
+        Halls.owe(z, 3, 0, 5);
+        Halls.owe(z, 2, 1, 1);
         z.pass(1);
         check.due("four in a ring", z.ring(), 0);
-        owe(z, 0, 2, 3);
+        Halls.owe(z, 0, 2, 3);
         z.pass(1);
         check.due("three of them", z.ring(), 3);
         check.due("3 to 0", z.debt(3, 0, false), 2);
         check.due("0 to 1 stays", z.debt(0, 1, false), 5);
-        HundiHall w = richOnes(3);
-        owe(w, 0, 1, 1000000);
-        owe(w, 1, 2, 1000000);
-        owe(w, 2, 0, 1000000);
+        HundiHall w = Halls.richOnes(3);
+        Halls.owe(w, 0, 1, 1000000);
+        Halls.owe(w, 1, 2, 1000000);
+        Halls.owe(w, 2, 0, 1000000);
         w.pass(1);
         w.raid(0);
         w.breakWord(1);
         check.due("whatever they are", w.ring(), 1000000);
         ringsUnknown();
-        HundiHall v = richOnes(3);
-        owe(v, 2, 1, 1);
-        owe(v, 1, 0, 2);
-        owe(v, 0, 2, 3);
+        HundiHall v = Halls.richOnes(3);
+        Halls.owe(v, 2, 1, 1);
+        Halls.owe(v, 1, 0, 2);
+        Halls.owe(v, 0, 2, 3);
         v.pass(1);
         check.due("a ring of 1", v.ring(), 1);
         check.due("the other way round", v.debt(2, 1, false), 0);
     }
 
     private static void ringsUnknown() {
-        HundiHall x = chain(3, 1000);
+        HundiHall x = Halls.chain(3, 1000);
         x.trust(0, 2, 1000, false);
         x.order(0, 1, 30, 0, 0);
         x.order(1, 2, 20, 0, 0);
@@ -983,7 +928,7 @@ public final class PromiseTests {
 
     private static void laws() {
         check.part("16 law");
-        HundiHall x = chain(3, 1000000);
+        HundiHall x = Halls.chain(3, 1000000);
         check.dueThrow(Check.INDEX, "town 8", () -> x.law(8, 0));
         check.dueThrow(Check.INDEX, "town -1", () -> x.law(-1, 0));
         check.dueThrow(Check.INDEX, "town 8, bound -1", () -> x.law(8, -1));
@@ -1013,7 +958,7 @@ public final class PromiseTests {
 
     private static void lists() {
         check.part("17 list");
-        HundiHall x = chain(2, 1000000);
+        HundiHall x = Halls.chain(2, 1000000);
         check.dueThrow(Check.INDEX, "name 20", () -> x.list(20) ? 1 : 0);
         check.dueThrow(Check.INDEX, "name -1", () -> x.list(-1) ? 1 : 0);
         check.due("list(0)", x.list(0), true);
@@ -1033,7 +978,7 @@ public final class PromiseTests {
 
     private static void brokerAnswers() {
         check.part("18 brokerOf");
-        HundiHall x = chain(3, 1000);
+        HundiHall x = Halls.chain(3, 1000);
         x.rate(1, 10);
         check.dueThrow(Check.INDEX, "brokerOf(3, 0)", () -> x.brokerOf(3, 0));
         check.dueThrow(Check.INDEX, "brokerOf(3, 9)", () -> x.brokerOf(3, 9));
@@ -1053,7 +998,7 @@ public final class PromiseTests {
 
     private static void debts() {
         check.part("19 debt");
-        HundiHall x = chain(4, 1000);
+        HundiHall x = Halls.chain(4, 1000);
         check.dueThrow(Check.INDEX, "debt(4, 0)", () -> x.debt(4, 0, false));
         check.dueThrow(Check.INDEX, "debt(0, 4)", () -> x.debt(0, 4, true));
         check.dueThrow(Check.INDEX, "debt(-1, 0)", () -> x.debt(-1, 0, false));
@@ -1080,7 +1025,7 @@ public final class PromiseTests {
 
     private static void books() {
         check.part("20 agree");
-        HundiHall x = chain(4, 1000);
+        HundiHall x = Halls.chain(4, 1000);
         check.dueThrow(Check.INDEX, "agree(4, 0)", () -> x.agree(4, 0) ? 1 : 0);
         check.dueThrow(Check.INDEX, "agree(0, 4)", () -> x.agree(0, 4) ? 1 : 0);
         check.dueThrow(Check.INDEX, "agree(-1, -1)", () -> x.agree(-1, -1) ? 1 : 0);
@@ -1103,7 +1048,7 @@ public final class PromiseTests {
         check.due("of what it did not know", x.debt(2, 1, true), 40);
         check.due("1, 2 then", x.agree(1, 2), true);
         check.due("2, 3 then", x.agree(2, 3), true);
-        HundiHall y = chain(3, 1000);
+        HundiHall y = Halls.chain(3, 1000);
         y.order(0, 2, 100, 0, 0);
         y.pass(1);
         y.breakWord(0);
@@ -1134,20 +1079,20 @@ public final class PromiseTests {
         x.trust(2, 0, 100000, false);
         x.trust(3, 2, 100000, false);
         x.trust(4, 3, 100000, false);
-        check.due("least fees", wayText(x, 0, 4, 1000), "0-2-3-4");
+        check.due("least fees", Halls.wayText(x, 0, 4, 1000), "0-2-3-4");
         check.due("behind the last one", x.way(0, 4, 1000, 4), HundiHall.NONE);
         check.due("far behind", x.way(0, 4, 1000, MAX), HundiHall.NONE);
         x.rate(1, 20);
-        check.due("the same fees, fewest brokers", wayText(x, 0, 4, 1000), "0-1-4");
+        check.due("the same fees, fewest brokers", Halls.wayText(x, 0, 4, 1000), "0-1-4");
         x.rate(1, 21);
-        check.due("one more", wayText(x, 0, 4, 1000), "0-2-3-4");
-        check.due("cut to the same", wayText(x, 0, 4, 40), "0-1-4");
+        check.due("one more", Halls.wayText(x, 0, 4, 1000), "0-2-3-4");
+        check.due("cut to the same", Halls.wayText(x, 0, 4, 40), "0-1-4");
         x.trust(4, 3, 999, false);
-        check.due("trust of the last one", wayText(x, 0, 4, 1000), "0-1-4");
+        check.due("trust of the last one", Halls.wayText(x, 0, 4, 1000), "0-1-4");
         x.trust(4, 1, 999, false);
-        check.due("none", wayText(x, 0, 4, 1000), "");
+        check.due("none", Halls.wayText(x, 0, 4, 1000), "");
         x.trust(4, 0, 1000, false);
-        check.due("straight", wayText(x, 0, 4, 1000), "0-4");
+        check.due("straight", Halls.wayText(x, 0, 4, 1000), "0-4");
         check.due("nothing was given", x.sum(0), 0);
         lowerBrokers();
         dearerButTrusted();
@@ -1165,13 +1110,13 @@ public final class PromiseTests {
             x.trust(behind[i], front[i], 10000, false);
             x.trust(0, behind[i], 10000, false);
         }
-        check.due("lower at the first unlike place", wayText(x, 5, 0, 100), "5-1-4-0");
+        check.due("lower at the first unlike place", Halls.wayText(x, 5, 0, 100), "5-1-4-0");
         x.trust(3, 1, 10000, false);
-        check.due("lower at the next place", wayText(x, 5, 0, 100), "5-1-3-0");
+        check.due("lower at the next place", Halls.wayText(x, 5, 0, 100), "5-1-3-0");
         x.trust(3, 1, 101, false);
-        check.due("unless the trust ends there", wayText(x, 5, 0, 100), "5-1-4-0");
+        check.due("unless the trust ends there", Halls.wayText(x, 5, 0, 100), "5-1-4-0");
         x.trust(1, 5, 102, false);
-        check.due("or ahead of it", wayText(x, 5, 0, 100), "5-2-3-0");
+        check.due("or ahead of it", Halls.wayText(x, 5, 0, 100), "5-2-3-0");
     }
 
     /** The cheap rest of a way may not be trusted; then the dear one is taken. */
@@ -1186,16 +1131,16 @@ public final class PromiseTests {
         x.trust(3, 1, 1030, false);
         x.trust(4, 2, 1000, false);
         x.trust(4, 3, 1000, false);
-        check.due("by the dear one", wayText(x, 0, 4, 1000), "0-1-3-4");
+        check.due("by the dear one", Halls.wayText(x, 0, 4, 1000), "0-1-3-4");
         x.trust(1, 0, 1029, false);
-        check.due("its fees are too much", wayText(x, 0, 4, 1000), "");
+        check.due("its fees are too much", Halls.wayText(x, 0, 4, 1000), "");
         x.trust(2, 1, 1010, false);
-        check.due("by the cheap one", wayText(x, 0, 4, 1000), "0-1-2-4");
+        check.due("by the cheap one", Halls.wayText(x, 0, 4, 1000), "0-1-2-4");
     }
 
     private static void orderAnswers() {
         check.part("22, 23 wayOf, orderOf");
-        HundiHall x = chain(3, 1000);
+        HundiHall x = Halls.chain(3, 1000);
         check.dueThrow(Check.INDEX, "wayOf(0, 0)", () -> x.wayOf(0, 0));
         check.dueThrow(Check.INDEX, "orderOf(0, 9)", () -> x.orderOf(0, 9));
         x.order(0, 2, 100, 0, 7);
@@ -1211,16 +1156,16 @@ public final class PromiseTests {
         check.due("place 3", x.wayOf(0, 3), HundiHall.NONE);
         check.due("place MAX", x.wayOf(0, MAX), HundiHall.NONE);
         x.trust(2, 0, 1000, false);
-        check.due("as it is", wayTextOf(x, 0), "0-1-2");
-        check.due("not as it would be", wayText(x, 0, 2, 100), "0-2");
+        check.due("as it is", Halls.wayTextOf(x, 0), "0-1-2");
+        check.due("not as it would be", Halls.wayText(x, 0, 2, 100), "0-2");
         x.pass(2);
         int rich = x.broker(0, 1000, 0);
         x.courier(rich, 2, 1000, 1);
         x.pass(1);
-        fetchFalse(x, 0, 8, 3);
+        Halls.fetchFalse(x, 0, 8, 3);
         x.pass(1);
         check.due("BACK", x.orderOf(0, 0), HundiHall.BACK);
-        check.due("as it was last", wayTextOf(x, 0), "0-1-2");
+        check.due("as it was last", Halls.wayTextOf(x, 0), "0-1-2");
         check.due("amount", x.orderOf(0, 1), 100);
         check.due("given", x.orderOf(0, 2), 100);
         check.due("place", x.orderOf(0, 3), 2);
@@ -1235,19 +1180,19 @@ public final class PromiseTests {
         x.breakWord(0);
         check.due("LOST", x.orderOf(2, 0), HundiHall.LOST);
         check.due("PAID as before", x.orderOf(1, 0), HundiHall.PAID);
-        check.due("way of a LOST one", wayTextOf(x, 2), "0-2");
+        check.due("way of a LOST one", Halls.wayTextOf(x, 2), "0-2");
     }
 
     private static void inquiries() {
         check.part("24 inquiry");
-        HundiHall x = chain(5, 1000);
+        HundiHall x = Halls.chain(5, 1000);
         x.order(0, 1, 10, 0, 0);
         x.order(1, 2, 10, 0, 0);
         x.order(2, 3, 10, 0, 0);
         check.due("none raided", x.inquiry(), 0);
         x.raid(3);
         check.due("its book does not tell it yet", x.inquiry(), 8);
-        HundiHall y = chain(5, 1000);
+        HundiHall y = Halls.chain(5, 1000);
         y.order(0, 1, 10, 0, 0);
         y.order(1, 2, 10, 0, 0);
         y.order(2, 3, 10, 0, 0);
@@ -1255,7 +1200,7 @@ public final class PromiseTests {
         check.due("who owes tells whom, and so on", y.inquiry(), 2 + 4 + 8);
         y.pass(1);
         check.due("and whom it is owed by", y.inquiry(), 2 + 4 + 8);
-        HundiHall z = chain(5, 1000);
+        HundiHall z = Halls.chain(5, 1000);
         z.order(0, 1, 10, 0, 0);
         z.order(1, 2, 10, 0, 0);
         z.pass(1);
@@ -1272,7 +1217,7 @@ public final class PromiseTests {
         check.due("raided and broken", z.inquiry(), 4 + 2);
         z.raid(0);
         check.due("another one", z.inquiry(), 4 + 2 + 1);
-        HundiHall v = chain(4, 1000);
+        HundiHall v = Halls.chain(4, 1000);
         v.trust(3, 0, 1000, false);
         v.order(0, 2, 10, 0, 0);
         v.order(0, 3, 10, 0, 0);
@@ -1280,7 +1225,7 @@ public final class PromiseTests {
         check.due("what is taken back names nobody", v.inquiry(), 8);
         v.raid(0);
         check.due("what stands does", v.inquiry(), 8 + 1 + 2 + 4);
-        HundiHall w = chain(12, 1000);
+        HundiHall w = Halls.chain(12, 1000);
         for (int i = 0; i < 11; i++) {
             w.order(i, i + 1, 10, 0, 0);
         }
@@ -1291,7 +1236,7 @@ public final class PromiseTests {
 
     private static void sums() {
         check.part("25 sum");
-        HundiHall x = chain(3, 10000);
+        HundiHall x = Halls.chain(3, 10000);
         int rich = x.broker(0, 1000, 0);
         x.rate(1, 10);
         check.dueThrow(Check.ARGUMENT, "what -1", () -> x.sum(-1));
@@ -1319,7 +1264,7 @@ public final class PromiseTests {
         x.fetch(0, 1);
         x.fetch(1, 1);
         check.due("paid out", x.sum(1), 300);
-        fetchFalse(x, 2, 2, 3);
+        Halls.fetchFalse(x, 2, 2, 3);
         check.due("not given back yet", x.sum(2), 0);
         x.pass(1);
         check.due("given back", x.sum(2), 303);
@@ -1350,18 +1295,18 @@ public final class PromiseTests {
             for (int what = 0; what < 6; what++) {
                 text.append(x.orderOf(i, what)).append(' ');
             }
-            text.append(wayTextOf(x, i)).append(' ');
+            text.append(Halls.wayTextOf(x, i)).append(' ');
         }
         for (int what = 0; what < 8; what++) {
             text.append(x.sum(what)).append(' ');
         }
         return text.append(x.inquiry()).append(' ').append(x.law(0, 500)).append(' ')
-                .append(wayText(x, 0, 2, 10)).toString();
+                .append(Halls.wayText(x, 0, 2, 10)).toString();
     }
 
     private static void failedCallsChangeNothing() {
         check.part("calls that throw change nothing");
-        HundiHall x = chain(3, 1000);
+        HundiHall x = Halls.chain(3, 1000);
         x.law(0, 500);
         x.order(0, 2, 600, 0, 7);
         x.order(0, 1, 50, 0, 7);
@@ -1407,7 +1352,7 @@ public final class PromiseTests {
             x.courier(i % 12, (i + 1) % 12, 10, 1 + i);
         }
         check.due("debt", x.debt(10, 11, false), 4000);
-        check.due("ways", wayTextOf(x, 39), "0-1-2-3-4-5-6-7-8-9-10-11");
+        check.due("ways", Halls.wayTextOf(x, 39), "0-1-2-3-4-5-6-7-8-9-10-11");
         check.due("behind the last place", x.wayOf(39, 12), HundiHall.NONE);
         check.due("way", x.way(0, 11, 1, 11), 11);
         check.due("behind its last place", x.way(0, 11, 1, 12), HundiHall.NONE);
@@ -1435,7 +1380,7 @@ public final class PromiseTests {
         int[] odd = {MIN, MIN + 1, -1, 0, 1, 11, 12, 40, 1000001, MAX - 1, MAX};
         for (int a : odd) {
             for (int b : odd) {
-                HundiHall x = chain(12, 1000);
+                HundiHall x = Halls.chain(12, 1000);
                 x.order(0, 11, 1000, 0, 0);
                 x.courier(0, 1, 1, 1);
                 named("rate", () -> x.rate(a, b));
