@@ -3,7 +3,7 @@ import java.util.List;
 
 /**
  * The document once more, written another way, to be compared with the class: debts are a list of entries that are
- * struck out when they are taken back, and the way is the best one of all that there are.
+ * struck out when they are taken back, and the way is the best one of all that can be.
  */
 final class Model {
     private static final class Entry {
@@ -41,6 +41,7 @@ final class Model {
         int state;
         int place;
         int falseCodes;
+        boolean hasNewWay;
     }
 
     private static final class Runner {
@@ -65,7 +66,12 @@ final class Model {
     private long robbed;
     private long seized;
     /** How often rare things came to pass, so that a test can tell whether it saw them. */
-    final int[] seen = new int[6];
+    static final String[] RARE = {
+        "new ways", "no new ways", "dearer ways", "LOST as it would go back", "given back", "rings",
+        "ways of nine or more", "new ways from behind the first broker", "new ways in the place of new ways",
+        "raids over", "third false codes", "too old", "the last order that can be", "the last courier that can be",
+    };
+    final int[] seen = new int[RARE.length];
 
     Model() {
         for (int i = 0; i < 8; i++) {
@@ -174,6 +180,9 @@ final class Model {
                 List<Integer> rest = best(m.way.get(m.place), m.way.get(m.way.size() - 1), m.amount, ahead);
                 if (rest != null && feesFrom(rest, 1, m.amount) <= before) {
                     seen[0]++;
+                    seen[7] += m.place > 0 ? 1 : 0;
+                    seen[8] += m.hasNewWay ? 1 : 0;
+                    m.hasNewWay = true;
                     m.way = new ArrayList<>(ahead);
                     m.way.addAll(rest);
                     enter(m, m.place);
@@ -234,24 +243,15 @@ final class Model {
         return sum;
     }
 
-    private boolean isWay(List<Integer> way, int amount) {
-        for (int i = 0; i < way.size(); i++) {
-            if (ones.get(way.get(i)).state != 0) {
-                return false;
-            }
-            if (i > 0) {
-                int ahead = way.get(i - 1);
-                One by = ones.get(way.get(i));
-                long limit = by.limit[ahead];
-                if (feast && by.kin[ahead]) {
-                    limit = limit + limit;
-                }
-                if (amount + feesFrom(way, i, amount) + owed(ahead, way.get(i)) > limit) {
-                    return false;
-                }
-            }
+    /** Whether the broker trusts the one ahead so far, as the last step but those of the tail. */
+    private boolean isStep(int ahead, List<Integer> tail, int amount, long[][] owed) {
+        int at = tail.get(0);
+        One by = ones.get(at);
+        long limit = by.limit[ahead];
+        if (feast && by.kin[ahead]) {
+            limit = limit + limit;
         }
-        return true;
+        return ones.get(ahead).state == 0 && amount + feesFrom(tail, 0, amount) + owed[ahead][at] <= limit;
     }
 
     private boolean isBetter(List<Integer> a, List<Integer> b, int amount) {
@@ -275,21 +275,28 @@ final class Model {
     }
 
     private List<Integer> best(int first, int last, int amount, List<Integer> without) {
-        List<Integer> start = new ArrayList<>();
-        start.add(first);
-        return bestFrom(start, last, amount, without, null);
+        long[][] owed = new long[ones.size()][ones.size()];
+        for (int a = 0; a < ones.size(); a++) {
+            for (int b = 0; b < ones.size(); b++) {
+                owed[a][b] = owed(a, b);
+            }
+        }
+        List<Integer> tail = new ArrayList<>();
+        tail.add(last);
+        return ones.get(last).state == 0 ? bestOfAll(first, tail, amount, without, owed, null) : null;
     }
 
-    private List<Integer> bestFrom(List<Integer> way, int last, int amount, List<Integer> without, List<Integer> best) {
-        int at = way.get(way.size() - 1);
-        if (at == last) {
-            return isBetter(way, best, amount) && isWay(way, amount) ? new ArrayList<>(way) : best;
+    /** Looks at each way that can be with that tail. */
+    private List<Integer> bestOfAll(int first, List<Integer> tail, int amount, List<Integer> without, long[][] owed,
+            List<Integer> best) {
+        if (tail.get(0) == first) {
+            return isBetter(tail, best, amount) ? new ArrayList<>(tail) : best;
         }
-        for (int next = 0; next < ones.size(); next++) {
-            if (!way.contains(next) && !without.contains(next)) {
-                way.add(next);
-                best = bestFrom(way, last, amount, without, best);
-                way.remove(way.size() - 1);
+        for (int ahead = 0; ahead < ones.size(); ahead++) {
+            if (!tail.contains(ahead) && !without.contains(ahead) && isStep(ahead, tail, amount, owed)) {
+                tail.add(0, ahead);
+                best = bestOfAll(first, tail, amount, without, owed, best);
+                tail.remove(0);
             }
         }
         return best;
@@ -310,6 +317,8 @@ final class Model {
         ones.get(first).cash += m.given;
         enter(m, 0);
         messages.add(m);
+        seen[6] += way.size() >= 9 ? 1 : 0;
+        seen[12] += messages.size() == 40 ? 1 : 0;
         if (amount > bounds[ones.get(first).town]) {
             told[ones.get(first).town]++;
         }
@@ -327,6 +336,7 @@ final class Model {
             paidOut += m.amount;
             m.state = 2;
         } else if (++m.falseCodes == 3) {
+            seen[10]++;
             strike(m, 0);
             turn(m);
         }
@@ -346,6 +356,7 @@ final class Model {
         for (One one : ones) {
             if (one.state == 1 && hour - one.raidHour == 720) {
                 one.state = 0;
+                seen[9]++;
             }
         }
         for (Message m : messages) {
@@ -357,6 +368,7 @@ final class Model {
         }
         for (Message m : messages) {
             if ((m.state == 0 || m.state == 1) && hour - m.hour == 240) {
+                seen[11]++;
                 strike(m, 0);
                 turn(m);
             }
@@ -412,6 +424,7 @@ final class Model {
         r.due = hour + hours;
         ones.get(i).cash -= amount;
         runners.add(r);
+        seen[13] += runners.size() == 40 ? 1 : 0;
         return runners.size() - 1;
     }
 

@@ -1,11 +1,11 @@
 /** Long runs of calls, drawn by a fixed rule, on the class and on the Model: each call has to answer the same. */
 public final class ModelTests {
-    private static final int RUNS = 2000;
+    private static final int RUNS = 4000;
     private static final int CALLS = 512;
     private static final int[] ODD = {Integer.MIN_VALUE, -2, -1, 12, 20, 41, 1000001, Integer.MAX_VALUE};
 
     private static final Check check = new Check();
-    private static final int[] seen = new int[6];
+    private static final int[] seen = new int[Model.RARE.length];
     private static int right = 0;
     private static int wrong = 0;
 
@@ -14,6 +14,10 @@ public final class ModelTests {
     private int orders;
     private int couriers;
     private int scale;
+    /** A hall with many brokers in a row. */
+    private boolean isLong;
+    /** A run with many orders and couriers. */
+    private boolean isBusy;
     private final HundiHall hall = new HundiHall();
     private final Model model = new Model();
     private String call = "";
@@ -28,11 +32,12 @@ public final class ModelTests {
         }
         check.part("ModelTests");
         check.due("answers unlike the model's", wrong, 0);
-        String[] rare = {"new ways", "no new ways", "dearer ways", "LOST as it would go back", "given back", "rings"};
-        for (int i = 0; i < rare.length; i++) {
-            check.due(rare[i] + " were seen (" + seen[i] + ")", seen[i] > 50, true);
+        StringBuilder all = new StringBuilder();
+        for (int i = 0; i < seen.length; i++) {
+            check.due(Model.RARE[i] + " were seen (" + seen[i] + ")", seen[i] >= 100, true);
+            all.append(i == 0 ? "" : ", ").append(Model.RARE[i]).append(" ").append(seen[i]);
         }
-        System.out.println(right + " calls answered like the model; seen: " + java.util.Arrays.toString(seen));
+        System.out.println(right + " calls answered like the model; seen: " + all);
         check.end("ModelTests");
     }
 
@@ -67,20 +72,23 @@ public final class ModelTests {
 
     private void play(int run) {
         scale = run % 5 == 0 ? 1000000 : run % 2 == 0 ? 1000 : 60;
-        int wanted = run % 50 == 7 ? 8 : 3 + next(5);
+        isLong = run % 10 == 7 || run % 10 == 4;
+        isBusy = run % 10 == 9;
+        int wanted = isLong ? 9 + next(4) : isBusy ? 3 + next(3) : 3 + next(6);
         for (int i = 0; i < wanted; i++) {
             int town = pick(8);
-            int cash = Math.min(1000000, next(3) * scale);
+            int cash = Math.min(1000000, next(3) * (isBusy ? 1000 : scale));
             int rate = rate();
             step("broker(" + town + "," + cash + "," + rate + ")", () -> hall.broker(town, cash, rate),
                     () -> model.broker(town, cash, rate), run);
         }
         brokers = wanted;
-        int trusts = run % 3 == 0 ? wanted * wanted : wanted * 5 / 2;
+        int trusts = isLong || isBusy ? 2 : run % 3 == 0 ? wanted * wanted : wanted * 5 / 2;
         for (int i = 0; i < trusts; i++) {
             trust(run);
         }
-        int used = wanted + trusts;
+        int chained = isLong || isBusy ? trustInARow(run) : 0;
+        int used = wanted + trusts + chained;
         for (int i = used; i < CALLS && wrong < 20; i++) {
             if (next(3) == 0) {
                 ask(run);
@@ -93,6 +101,34 @@ public final class ModelTests {
         }
     }
 
+    /** Lets each broker trust the one ahead in the row, without which long ways are rare, and the one behind. */
+    private int trustInARow(int run) {
+        int made = 0;
+        for (int i = 1; i < brokers; i++) {
+            trust(run, i, i - 1, 1000000, false);
+            made++;
+            if (isBusy) {
+                trust(run, i - 1, i, 1000000, false);
+                made++;
+            }
+        }
+        return made;
+    }
+
+    /** A shorter way beside the row, mostly while a message is on its way alone: it would be taken at once else. */
+    private void trustAhead(int run) {
+        int by = 1 + next(brokers - 1);
+        int other = Math.max(0, by - 1 - next(3));
+        boolean isOpen = other == by - 1 || isOnItsWay() || next(8) == 0;
+        trust(run, by, other, isOpen ? 1000000 : next(scale), next(2) == 0);
+    }
+
+    private void trust(int run, int by, int other, int limit, boolean isKin) {
+        step("trust(" + by + "," + other + "," + limit + "," + isKin + ")",
+                () -> { hall.trust(by, other, limit, isKin); return 0; },
+                () -> model.trust(by, other, limit, isKin), run);
+    }
+
     private boolean isOnItsWay() {
         return orders > 0 && model.orderOf(orders - 1, 0) == HundiHall.ON_ITS_WAY;
     }
@@ -101,7 +137,7 @@ public final class ModelTests {
     private int between() {
         for (int i = orders - 1; i >= 0; i--) {
             if (model.orderOf(i, 0) == HundiHall.ON_ITS_WAY) {
-                int place = (int) model.orderOf(i, 3) + 1;
+                int place = (int) model.orderOf(i, 3) + 1 + (isLong ? next(4) : 0);
                 if (model.wayOf(i, place + 1) != HundiHall.NONE) {
                     return (int) model.wayOf(i, place);
                 }
@@ -118,18 +154,26 @@ public final class ModelTests {
         int by = pick(brokers);
         int other = pick(brokers);
         int limit = Math.min(1000000, Math.max(-2, money()) * (1 + next(run % 4 == 0 ? 12 : 3)));
-        boolean isKin = next(2) == 0;
-        step("trust(" + by + "," + other + "," + limit + "," + isKin + ")",
-                () -> { hall.trust(by, other, limit, isKin); return 0; },
-                () -> model.trust(by, other, limit, isKin), run);
+        trust(run, by, other, limit, next(2) == 0);
+    }
+
+    private int kind() {
+        if (isBusy) {
+            return next(3) != 0 ? next(2) * 25 : next(35);
+        }
+        if (isLong && isOnItsWay()) {
+            return next(4) != 0 ? 30 : next(3) == 0 ? 35 : 15 + next(6);
+        }
+        int kind = isOnItsWay() && next(8) == 0 ? 35 : next(40);
+        return isLong && kind >= 35 && kind < 38 && next(4) != 0 ? 20 : kind;
     }
 
     private void act(int run) {
-        int kind = isOnItsWay() && next(8) == 0 ? 35 : next(40);
-        int a = pick(brokers);
-        int b = pick(brokers);
-        int money = money();
-        int hours = hours();
+        int kind = kind();
+        int a = isLong && next(2) == 0 ? next(2) : pick(brokers);
+        int b = isLong && next(2) == 0 ? brokers - 1 : pick(brokers);
+        int money = isLong || isBusy ? 1 + next(60) : money();
+        int hours = !isLong ? hours() : isOnItsWay() ? 1 + next(2) : 500;
         int order = pick(orders);
         int code = code();
         int rate = rate();
@@ -157,7 +201,11 @@ public final class ModelTests {
         } else if (kind < 30) {
             step("ring()", () -> hall.ring(), () -> model.ring(), run);
         } else if (kind < 33) {
-            trust(run);
+            if (isLong) {
+                trustAhead(run);
+            } else {
+                trust(run);
+            }
         } else if (kind < 35) {
             step("rate(" + a + "," + rate + ")", () -> hall.rate(a, rate), () -> model.rate(a, rate), run);
         } else {
@@ -188,6 +236,7 @@ public final class ModelTests {
         int b = pick(brokers);
         int order = pick(orders);
         int what = pick(8);
+        int place = pick(brokers + 1);
         int money = money();
         boolean isBook = next(3) != 0;
         if (kind < 4) {
@@ -197,10 +246,10 @@ public final class ModelTests {
         } else if (kind < 10) {
             step("agree(" + a + "," + b + ")", () -> hall.agree(a, b) ? 1 : 0, () -> model.agree(a, b), run);
         } else if (kind < 12) {
-            step("way(" + a + "," + b + "," + money + "," + what + ")", () -> hall.way(a, b, money, what),
-                    () -> model.way(a, b, money, what), run);
+            step("way(" + a + "," + b + "," + money + "," + place + ")", () -> hall.way(a, b, money, place),
+                    () -> model.way(a, b, money, place), run);
         } else if (kind < 14) {
-            step("wayOf(" + order + "," + what + ")", () -> hall.wayOf(order, what), () -> model.wayOf(order, what), run);
+            step("wayOf(" + order + "," + place + ")", () -> hall.wayOf(order, place), () -> model.wayOf(order, place), run);
         } else if (kind < 17) {
             step("orderOf(" + order + "," + what + ")", () -> hall.orderOf(order, what), () -> model.orderOf(order, what), run);
         } else if (kind < 18) {
